@@ -341,8 +341,6 @@ public final class TaskWeaver {
         }
 
         boolean isCyclic() {
-            cycleFrom = 0;
-            cycleTo = 0;
             for (int i = 0; i < MAX_COMPOUNDS; i++) {
                 marks[i] = NOT_VISITED;
             }
@@ -355,7 +353,7 @@ public final class TaskWeaver {
             return false;
         }
 
-        /** The k-th task of the cycle that isCyclic() found. */
+        /** The k-th task of the cycle, right only when isCyclic() has just found one. */
         int memberAt(int k) {
             return k >= 0 && k < cycleTo - cycleFrom ? path[cycleFrom + k] : NONE;
         }

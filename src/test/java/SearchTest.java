@@ -3,12 +3,15 @@ public final class SearchTest {
     private static final Due due = new Due();
     private static final int MIN = Integer.MIN_VALUE;
     private static final int MAX = Integer.MAX_VALUE;
+    /** Of the trees that wide() makes: 48 tasks are taken, and 1 + 5 + 1 + 1 + 1 methods are tried. */
+    private static final int STEPS_OF_48_NODES = 57;
 
     public static void main(String[] args) {
         fuelIsLookedAt();
         everyStep();
         noMethods();
         emptyMethod();
+        endingWhileOpen();
         seeingAPlanTakesNoFuel();
         goingBackRestoresAll();
         goingBackPastNodesWithoutMore();
@@ -142,6 +145,29 @@ public final class SearchTest {
         isNode("no parts", x, 0, 16, TaskWeaver.NONE, 0);
     }
 
+    private static void endingWhileOpen() {
+        TaskWeaver x = new TaskWeaver();
+        x.primitive(0, 0, 0, 0, 0);
+        x.compound();
+        methodWith(x, 16, 1, 0);
+        methodWith(x, 16, 2, 0);
+        x.aim(16);
+        due.is("no method holds: plan(2)", x.plan(2), TaskWeaver.MORE);
+        isNode("no method holds", x, 0, 16, TaskWeaver.NONE, TaskWeaver.NONE);
+        due.is("no method holds: plan(1)", x.plan(1), TaskWeaver.END);
+        due.is("no method holds: steps", x.steps(), 3);
+        noNode("no method holds", x, 0);
+        x.forget();
+        x.aim(0);
+        due.is("a new search behind an end: plan(1)", x.plan(1), TaskWeaver.FOUND);
+        isNode("a new search behind an end", x, 0, 0, TaskWeaver.NONE, TaskWeaver.NONE);
+        x.aim(16);
+        due.is("open when the domain changes", x.plan(2), TaskWeaver.MORE);
+        x.forget();
+        due.is("a new search behind an open node", x.plan(0), TaskWeaver.FOUND);
+        due.is("a new search behind an open node: nodes", x.found(3), 0);
+    }
+
     private static void seeingAPlanTakesNoFuel() {
         TaskWeaver x = new TaskWeaver();
         x.primitive(0, 0, 0, 0, 0);
@@ -271,8 +297,8 @@ public final class SearchTest {
         due.is("steps", x.steps(), 4);
     }
 
-    /** A tree of 1 + 5 * (1 + 5) nodes for 16, and as many aims more of the primitive task as fit. */
-    private static TaskWeaver wide(int moreAims, int extraParts) {
+    /** Aims whose tree has 31 + 6 + 6 + 1 nodes, and the parts of 18, the last aim. */
+    private static TaskWeaver wide(int partsOfLast) {
         TaskWeaver x = new TaskWeaver();
         x.primitive(0, 0, 0, 0, 2);
         x.compound();
@@ -280,74 +306,41 @@ public final class SearchTest {
         x.compound();
         methodWith(x, 16, 0, 0, 17, 17, 17, 17, 17);
         methodWith(x, 17, 0, 0, 0, 0, 0, 0, 0);
-        int extra = x.method(18, 0, 0);
-        for (int i = 0; i < extraParts; i++) {
-            x.part(extra, 0);
-        }
+        methodWith(x, 18, 0, 0, new int[partsOfLast]);
         x.aim(16);
         x.aim(17);
+        x.aim(17);
         x.aim(18);
-        for (int i = 0; i < moreAims; i++) {
-            x.aim(0);
-        }
         return x;
     }
 
     private static void fortyEightNodes() {
-        TaskWeaver x = wide(3, 5);
-        due.is("31 + 6 + 6 + 3 nodes", x.plan(5000), TaskWeaver.FOUND);
-        due.is("46 nodes", x.found(3), 46);
-        due.is("46 nodes: plan", x.found(0), 25 + 5 + 5 + 3);
-        int more = x.method(18, 0, 0);
-        due.is("a method behind", more, 3);
-        x.forget();
-        x.aim(16);
-        x.aim(17);
-        x.aim(17);
-        x.aim(0);
-        x.aim(0);
-        due.is("45 nodes", x.plan(5000), TaskWeaver.FOUND);
-        due.is("45 nodes: nodes", x.found(3), 45);
-        x.forget();
-        x.aim(16);
-        x.aim(17);
-        x.aim(17);
-        int two = methodWith(x, 18, 0, 0, 0, 0);
-        due.is("a third method of 18", two, 4);
-        x.compound();
-        methodWith(x, 19, 0, 0, 0, 0, 0, 0);
-        x.aim(19);
+        TaskWeaver x = wide(4);
         due.is("48 nodes", x.plan(5000), TaskWeaver.FOUND);
         due.is("48 nodes: nodes", x.found(3), 48);
+        due.is("48 nodes: plan", x.found(0), 25 + 5 + 5 + 4);
         due.is("48 nodes: cost", x.found(1), 2 * (25 + 5 + 5 + 4));
+        due.is("48 nodes: steps", x.steps(), STEPS_OF_48_NODES);
         isNode("48 nodes", x, 47, 0, 43, TaskWeaver.NONE);
-        noNode("48 nodes", x, 48);
-        noNode("48 nodes", x, -1);
-        noNode("48 nodes", x, MIN);
-        noNode("48 nodes", x, MAX);
+        for (int bad : new int[] {48, -1, MIN, MAX}) {
+            noNode("48 nodes", x, bad);
+        }
     }
 
     private static void fortyNineNodes() {
-        TaskWeaver x = wide(0, 5);
-        x.compound();
-        methodWith(x, 19, 0, 0, 0, 0, 0, 0, 0);
-        x.aim(19);
-        int stepsOf48Nodes = 48 + 1 + 5 + 1 + 1 + 1;
-        due.is("49 nodes: when 48 are there", x.plan(stepsOf48Nodes), TaskWeaver.MORE);
+        TaskWeaver x = wide(5);
+        due.is("49 nodes: when 48 are there", x.plan(STEPS_OF_48_NODES), TaskWeaver.MORE);
         isNode("49 nodes", x, 47, 0, 43, TaskWeaver.NONE);
         due.is("49 nodes: one is too many", x.plan(1), TaskWeaver.END);
-        due.is("49 nodes: the failing belongs to a step", x.steps(), stepsOf48Nodes + 1);
+        due.is("49 nodes: the failing belongs to a step", x.steps(), STEPS_OF_48_NODES + 1);
         noNode("49 nodes", x, 0);
     }
 
     private static void fullTreeGoesBack() {
-        TaskWeaver x = wide(0, 5);
-        x.compound();
-        methodWith(x, 19, 0, 0, 0, 0, 0, 0, 0);
-        methodWith(x, 19, 0, 0, 0);
-        x.aim(19);
-        due.is("back from a full tree", x.plan(58), TaskWeaver.MORE);
-        isNode("back from a full tree", x, 43, 19, TaskWeaver.NONE, TaskWeaver.NONE);
+        TaskWeaver x = wide(5);
+        methodWith(x, 18, 0, 0, 0);
+        due.is("back from a full tree", x.plan(STEPS_OF_48_NODES + 1), TaskWeaver.MORE);
+        isNode("back from a full tree", x, 43, 18, TaskWeaver.NONE, TaskWeaver.NONE);
         noNode("back from a full tree", x, 44);
         due.is("back from a full tree: the other way", x.plan(2), TaskWeaver.FOUND);
         due.is("back from a full tree: nodes", x.found(3), 45);
