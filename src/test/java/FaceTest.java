@@ -69,7 +69,8 @@ public final class FaceTest {
         members.addAll(List.of(TaskWeaver.class.getDeclaredFields()));
         for (Member member : members) {
             int modifiers = member.getModifiers();
-            due.is(member + " is public or private", Modifier.isPublic(modifiers) || Modifier.isPrivate(modifiers), true);
+            boolean isFaceOrHidden = Modifier.isPublic(modifiers) || Modifier.isPrivate(modifiers);
+            due.is(member + " is public or private", isFaceOrHidden, true);
         }
     }
 
