@@ -13,6 +13,7 @@ public final class NodeTest {
         withoutASearch();
         asItIsNow();
         theFullTree();
+        aParentFarBefore();
         theEndHasNoNodes();
         askingChangesNothing();
         due.end();
@@ -135,6 +136,20 @@ public final class NodeTest {
         for (int k : new int[] {48, 49, -1, Edges.MIN, Edges.MAX}) {
             tree.hasNone("48 nodes", x, k);
         }
+    }
+
+    /** The first node can be the parent of one far behind it. */
+    private static void aParentFarBefore() {
+        TaskWeaver x = Domains.wide();
+        x.compound();
+        Domains.method(x, 20, 16, 17, 17, 0, 0);
+        x.forget();
+        x.aim(20);
+        due.is("far before: plan", x.plan(5000), TaskWeaver.FOUND);
+        tree.hasNode("far before", x, 1, 16, 0, 0);
+        tree.hasNode("far before", x, 32, 17, 0, 1);
+        tree.hasNode("far before", x, 45, 0, 0, NONE);
+        tree.hasCount("far before", x, 46);
     }
 
     private static void theEndHasNoNodes() {

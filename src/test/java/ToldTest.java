@@ -21,6 +21,7 @@ public final class ToldTest {
         fortyEightGoesBeforeConditions();
         noSuchMethodGoesBeforeItsCondition();
         whatIsRefusedChangesNothing();
+        whatIsRefusedLeavesTheFacts();
         notBegunChangesNothing();
         aFoundTreeIsRight();
         leavesTheSearchAlone();
@@ -330,6 +331,28 @@ public final class ToldTest {
     private static void halfWay(TaskWeaver x) {
         begun(x);
         x.told(16, 2);
+    }
+
+    /** The facts that there are stay, too: the last task can be done in them alone. */
+    private static void whatIsRefusedLeavesTheFacts() {
+        TaskWeaver x = Domains.compounds(1);
+        x.primitive(0, 0, 4, 0, 0);
+        x.primitive(5, Edges.ALL_BITS - 5, 0, 0, 0);
+        x.primitive(8, 0, 2, 1, 0);
+        Domains.methodIf(x, 16, 8, 0);
+        Domains.methodIf(x, 16, 5, 0);
+        x.start(1);
+        Domains.aims(x, 0, 16, 1, 2, 1);
+        x.check();
+        due.is("facts: 0 is done", x.told(0, 0), 0);
+        due.is("facts: 2", x.told(2, 0), 2);
+        due.is("facts: 5", x.told(16, 9), 5);
+        due.is("facts: 6", x.told(16, 0), 6);
+        due.is("facts: 16 is right", x.told(16, 1), 0);
+        due.is("facts: they are as they were", x.told(1, 0), 0);
+        due.is("facts: 4", x.told(2, 0), 4);
+        due.is("facts: 4 again", x.told(2, 0), 4);
+        due.is("facts: 2 again", x.told(1, 0), 2);
     }
 
     private static void notBegunChangesNothing() {
