@@ -1,3 +1,5 @@
+import java.util.Random;
+
 /** Promise 9: cycle, with the term of the cycle. */
 public final class CycleTest {
     private static final Due due = new Due();
@@ -19,6 +21,7 @@ public final class CycleTest {
         theFirstCycleIsNamedWhenThereAreTwo();
         anotherOneBehindAChange();
         askingChangesNothing();
+        thereIsOneWhenATaskLeadsToItself();
         due.end();
     }
 
@@ -124,6 +127,17 @@ public final class CycleTest {
         link(x, 18, 17, 19);
         link(x, 19, 17, 18);
         isCycle("past one whose visit is over", x, 18, 19);
+        isCycle("so many ways that only once visited ones come to an end", manyWays());
+    }
+
+    private static TaskWeaver manyWays() {
+        TaskWeaver x = Domains.compounds(12);
+        for (int next = 17; next < 28; next++) {
+            for (int i = 0; i < 3; i++) {
+                link(x, next - 1, next, next, next, next, next);
+            }
+        }
+        return x;
     }
 
     /** "those that are compound": a primitive task with the place of a compound one is none. */
@@ -207,5 +221,63 @@ public final class CycleTest {
             x.cycle(0);
             x.cycle(1);
         });
+    }
+
+    /** Many small domains: whether there is a cycle is seen here by joining links, without any visit. */
+    private static void thereIsOneWhenATaskLeadsToItself() {
+        int cyclic = 0;
+        for (int seed = 0; seed < 2000; seed++) {
+            Random random = new Random(seed);
+            int count = 1 + random.nextInt(12);
+            TaskWeaver x = Domains.compounds(count);
+            boolean[][] isPart = new boolean[count][count];
+            for (int i = random.nextInt(2 * count); i > 0; i--) {
+                int from = random.nextInt(count);
+                int to = random.nextInt(count);
+                isPart[from][to] |= x.part(x.method(16 + from, 0, 0), 16 + to) == 1;
+            }
+            boolean isCyclic = someLeadsToItself(isPart);
+            due.is("domain " + seed + ": there is a cycle", x.cycle(0) != TaskWeaver.NONE, isCyclic);
+            due.is("domain " + seed + ": plan(0) is CYCLIC", x.plan(0) == TaskWeaver.CYCLIC, isCyclic);
+            if (isCyclic) {
+                isRing("domain " + seed, x, isPart);
+                cyclic++;
+            }
+        }
+        due.is("some domains have cycles, others none", cyclic > 500 && cyclic < 1500, true);
+    }
+
+    private static boolean someLeadsToItself(boolean[][] isPart) {
+        int count = isPart.length;
+        boolean[][] leads = new boolean[count][];
+        for (int i = 0; i < count; i++) {
+            leads[i] = isPart[i].clone();
+        }
+        for (int by = 0; by < count; by++) {
+            for (int from = 0; from < count; from++) {
+                for (int to = 0; to < count; to++) {
+                    leads[from][to] |= leads[from][by] && leads[by][to];
+                }
+            }
+        }
+        boolean some = false;
+        for (int i = 0; i < count; i++) {
+            some |= leads[i][i];
+        }
+        return some;
+    }
+
+    /** Each task of the cycle is a part of the one before it, and the first one of the last one. */
+    private static void isRing(String name, TaskWeaver x, boolean[][] isPart) {
+        int length = 0;
+        while (length < isPart.length && x.cycle(length) != TaskWeaver.NONE) {
+            length++;
+        }
+        due.is(name + ": the cycle ends", x.cycle(length), TaskWeaver.NONE);
+        for (int k = 0; k < length; k++) {
+            int task = x.cycle(k);
+            int next = x.cycle((k + 1) % length);
+            due.is(name + ": " + next + " is a part of " + task, isPart[task - 16][next - 16], true);
+        }
     }
 }
